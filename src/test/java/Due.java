@@ -1,0 +1,42 @@
+/** Counts answers that are not the ones that are due, and ends the test with exit code 1 if there are any. */
+final class Due {
+    private static int wrong = 0;
+
+    private Due() {
+    }
+
+    static void is(String call, long got, long want) {
+        if (got != want) {
+            wrong++;
+            if (wrong <= 50) {
+                System.out.println(call + " answered " + got + ", due is " + want);
+            }
+        }
+    }
+
+    static void is(String call, boolean got, boolean want) {
+        is(call, got ? 1L : 0L, want ? 1L : 0L);
+    }
+
+    /** Feeds a text by as many calls as it needs, leaves no byte behind it, and makes it THE TEXT. */
+    static boolean text(CaneRounds x, String text) {
+        x.end(0);
+        int[] words = new int[25];
+        for (int i = 0; i < text.length(); i++) {
+            words[i / 4] |= (text.charAt(i) & 255) << (24 - 8 * (i % 4));
+        }
+        for (int i = 0; i < text.length(); i += 20) {
+            int w = i / 4;
+            is("feed", x.feed(words[w], words[w + 1], words[w + 2], words[w + 3], words[w + 4]), i + 20);
+        }
+        is("end", x.end(text.length()), text.length());
+        return x.text();
+    }
+
+    static void finish() {
+        System.out.println(wrong == 0 ? "all answers are as due" : wrong + " answers are not as due");
+        if (wrong != 0) {
+            System.exit(1);
+        }
+    }
+}
