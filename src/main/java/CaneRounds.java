@@ -936,18 +936,17 @@ public final class CaneRounds {
         }
 
         private int letter(int token) {
-            at++;
+            int value = 0;
             switch (token) {
-                case 't': return t;
-                case 's': return s;
-                case 'm': return m;
-                case 'b': return b;
-                case 'h': return h;
-                default:
-                    at--;
-                    stop(MISPLACED);
-                    return 0;
+                case 't': value = t; break;
+                case 's': value = s; break;
+                case 'm': value = m; break;
+                case 'b': value = b; break;
+                case 'h': value = h; break;
+                default: stop(MISPLACED); return 0;
             }
+            at++;
+            return value;
         }
 
         private int bracket(int open) {
@@ -973,32 +972,36 @@ public final class CaneRounds {
 
         /** Goes past the token that opens a level, unless it is another one or one too many. */
         private boolean opens(int token, int open) {
-            if (token() == token && open >= MOST_OPEN) {
-                stop(TOO_DEEP);
-                return false;
-            }
-            return take(token);
-        }
-
-        private boolean take(int token) {
             if (token() != token) {
                 stop(MISPLACED);
+                return false;
+            }
+            if (open >= MOST_OPEN) {
+                stop(TOO_DEEP);
                 return false;
             }
             at++;
             return true;
         }
 
+        private void take(int token) {
+            if (token() == token) {
+                at++;
+            } else {
+                stop(MISPLACED);
+            }
+        }
+
         /** Behind the last token there is the end again, so that reading on there does no harm. */
         private int token() {
-            return isWithin(at, 0, count - 1) ? tokens[at] : END;
+            return at < count && at < tokens.length ? tokens[at] : END;
         }
 
         /** Keeps the first fault, and goes to the end, where all that is still open ceases. */
         private void stop(int kind) {
             if (fault == NO_FAULT) {
                 fault = kind;
-                place = isWithin(at, 0, count - 1) ? places[at] : NONE;
+                place = at < count && at < places.length ? places[at] : NONE;
             }
             at = count;
         }
@@ -1091,7 +1094,7 @@ public final class CaneRounds {
             int value = 0;
             for (int place = count - 1; place >= 0 && left > 0; place--) {
                 int i = byWorth[place] & NUMBER_MASK;
-                if (fits(set | 1 << i)) {
+                if (fits(set | 1 << i, i)) {
                     set |= 1 << i;
                     value += worth[i];
                     left--;
@@ -1119,20 +1122,22 @@ public final class CaneRounds {
             int i = below - 1;
             search(i, left, value, set);
             int with = set | 1 << i;
-            if (left > 0 && holdsBit(candidates, i) && fits(with)) {
+            if (left > 0 && holdsBit(candidates, i) && fits(with, i)) {
                 search(i, left - 1, value + worth[i], with);
             }
         }
 
         /**
-         * Whether the mill crushes all of a set in time. As it crushes first what dies first, it
-         * fails only if, from some load's coming to some load's death, more tons both come and
-         * die than it can crush in these hours.
+         * Whether the mill still crushes all of a set in time, now that one was added. As it
+         * crushes first what dies first, it fails only if, from some load's coming to some load's
+         * death, more tons both come and die than it can crush in these hours; the load that was
+         * added is among those tons, or the set would have failed without it.
          */
-        private boolean fits(int set) {
+        private boolean fits(int set, int added) {
+            int comes = arrives[added & NUMBER_MASK];
             for (int place = 0; place < count; place++) {
                 int i = byDeath[place] & NUMBER_MASK;
-                if (holdsBit(set, i) && !fitsFrom(arrives[i], set)) {
+                if (holdsBit(set, i) && arrives[i] <= comes && !fitsFrom(arrives[i], set)) {
                     return false;
                 }
             }

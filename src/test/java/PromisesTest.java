@@ -469,12 +469,12 @@ public final class PromisesTest {
         Due.is("the former stays", x.tells(1, 20, 300, 4000, 50000), 50020);
         Due.is("text", Due.text(x, "t"), true);
         Due.is("the new one", x.tells(1, 20, 300, 4000, 50000), 1);
-        StringBuilder hundred = new StringBuilder("t");
-        while (hundred.length() < 99) {
-            hundred.append("+t");
-        }
-        Due.is("a hundred bytes", Due.text(x, hundred.append('\u0020').toString()), true);
-        Due.is("tells", x.tells(3, 0, 0, 0, 0), 150);
+        Due.is("a hundred tokens", Due.text(x, "-t" + "+t".repeat(49)), true);
+        Due.is("tells", x.tells(3, 0, 0, 0, 0), 144);
+        Due.is("a hundred tokens, one wanting", Due.text(x, "t+".repeat(50)), false);
+        Due.is("at the end", x.fault(1), 100);
+        Due.is("the last token too many", Due.text(x, "t+".repeat(49) + "t)"), false);
+        Due.is("at the last", x.fault(1), 99);
     }
 
     private static void faultOf(String text, int fault, int place) {
