@@ -26,7 +26,7 @@ public final class BestTest {
     }
 
     private static void run(String where, int fields, int asked) {
-        CaneRounds x = new CaneRounds();
+        Mill x = new Mill();
         x.farm();
         int rate = upTo(20);
         int crush = upTo(RANDOM.nextBoolean() ? 12 : 60);
@@ -56,7 +56,7 @@ public final class BestTest {
         }
     }
 
-    private static Foreseen foresee(CaneRounds x, int field, int km, int rate) {
+    private static Foreseen foresee(Mill x, int field, int km, int rate) {
         int tons = x.fieldOf(field, 1);
         int cutAt = x.about(0);
         for (int done = 0; done < tons; done += rate) {
@@ -67,7 +67,7 @@ public final class BestTest {
         return new Foreseen(tons, tons * x.sweet(field, cutAt), cutAt + way, dies);
     }
 
-    private static void compare(String where, CaneRounds x, Foreseen[] all, int set, int g, int crush) {
+    private static void compare(String where, Mill x, Foreseen[] all, int set, int g, int crush) {
         int bestWorth = -1;
         int bestSet = -1;
         for (int part = 0; part <= set; part++) {

@@ -1,11 +1,13 @@
 import java.util.ArrayList;
+import java.util.Collections;
 import java.util.List;
 import java.util.Random;
 
 /** Random runs of calls, each answered by a second, plain model of the mill too. */
 public final class HoursTest {
     private static final int NONE = CaneRounds.NONE;
-    private static final int RUNS = 1500;
+    private static final int RUNS = 6000;
+    private static final int ASKED_ON_THE_WAY = 9;
 
     private static final class Plot {
         int farm;
@@ -48,6 +50,10 @@ public final class HoursTest {
         long pay = -2000000000L;
     }
 
+    /** An answer that is due, asked only if its turn comes: an object has but 512 calls. */
+    private record Check(String call, Refusal.Question question, long due) {
+    }
+
     /** The mill as the document tells it, ton by ton, with a clock for each truck. */
     private static final class Model {
         int gangs = 3;
@@ -64,6 +70,7 @@ public final class HoursTest {
         boolean[] settled = new boolean[10];
         boolean[] rain = new boolean[4001];
         boolean[] stop = new boolean[4001];
+        int told = 0;
         int mean = NONE;
 
         int turn() {
@@ -84,7 +91,7 @@ public final class HoursTest {
             int s = seed;
             for (int i = 0; i <= farms - 2; i++) {
                 s = s * 1103515245 + 12345;
-                java.util.Collections.swap(order, i, i + (s >>> 16) % (farms - i));
+                Collections.swap(order, i, i + (s >>> 16) % (farms - i));
             }
             return turn();
         }
@@ -115,6 +122,17 @@ public final class HoursTest {
             }
             p.state = 1;
             p.gangs = n;
+            return true;
+        }
+
+        boolean weather(boolean stops, int from, int to) {
+            if (from < clock || to <= from || to > 4000 || told == 20) {
+                return false;
+            }
+            told++;
+            for (int i = from; i < to; i++) {
+                (stops ? stop : rain)[i] = true;
+            }
             return true;
         }
 
@@ -242,7 +260,7 @@ public final class HoursTest {
     }
 
     private static void run(int number, Random random) {
-        CaneRounds x = new CaneRounds();
+        Mill x = new Mill();
         Model m = new Model();
         Due.is("text", Due.text(x, "t*s-m*3+b*100-h"), true);
         if (random.nextBoolean()) {
@@ -257,13 +275,13 @@ public final class HoursTest {
             x.farm();
         }
         int steps = 20 + random.nextInt(60);
-        for (int i = 0; i < steps; i++) {
+        for (int i = 0; i < steps && x.callsLeft() > 300; i++) {
             step("run " + number + " step " + i, x, m, random);
         }
-        compare("run " + number, x, m);
+        ask("run " + number, x, m, random, x.callsLeft());
     }
 
-    private static void step(String where, CaneRounds x, Model m, Random random) {
+    private static void step(String where, Mill x, Model m, Random random) {
         switch (random.nextInt(9)) {
             case 0: case 1:
                 addPlot(x, m, random);
@@ -297,13 +315,13 @@ public final class HoursTest {
                     m.hour();
                 }
                 Due.is(where + " hours", x.hours(hours), m.clock);
-                compare(where, x, m);
+                ask(where, x, m, random, ASKED_ON_THE_WAY);
                 break;
             }
         }
     }
 
-    private static void addPlot(CaneRounds x, Model m, Random random) {
+    private static void addPlot(Mill x, Model m, Random random) {
         Plot p = new Plot();
         p.farm = random.nextInt(m.farms);
         p.tons = 1 + random.nextInt(200);
@@ -318,7 +336,7 @@ public final class HoursTest {
         }
     }
 
-    private static void cutSomething(String where, CaneRounds x, Model m, Random random) {
+    private static void cutSomething(String where, Mill x, Model m, Random random) {
         int plot = random.nextInt(17) - 1;
         for (int i = 0; i < m.plots.size() && random.nextInt(4) != 0; i++) {
             if (m.plots.get(i).state == 0 && m.plots.get(i).farm == m.turn()) {
@@ -329,56 +347,70 @@ public final class HoursTest {
         Due.is(where + " cut", x.cut(plot, gangs), m.cut(plot, gangs));
     }
 
-    private static void addWeather(CaneRounds x, Model m, Random random) {
+    private static void addWeather(Mill x, Model m, Random random) {
         boolean stops = random.nextBoolean();
         int from = m.clock - 2 + random.nextInt(30);
         int to = from + random.nextInt(8);
-        boolean taken = x.weather(stops, from, to);
-        if (taken) {
-            Due.is("weather is not ahead of the clock, nor empty", from >= m.clock && to > from, true);
-        }
-        for (int i = from; taken && i < to; i++) {
-            (stops ? m.stop : m.rain)[i] = true;
+        Due.is("weather", x.weather(stops, from, to), m.weather(stops, from, to));
+    }
+
+    private static void ask(String where, Mill x, Model m, Random random, int most) {
+        List<Check> checks = new ArrayList<>();
+        checkWhole(checks, m);
+        checkPlots(checks, m);
+        checkCargos(checks, m);
+        Collections.shuffle(checks, random);
+        for (int i = 0; i < most && i < checks.size(); i++) {
+            Check c = checks.get(i);
+            Due.is(where + " " + c.call(), c.question().of(x), c.due());
         }
     }
 
-    private static void compare(String where, CaneRounds x, Model m) {
+    private static void checkWhole(List<Check> checks, Model m) {
         int crushed = m.bundles.size();
         int lost = m.cargos.stream().mapToInt(c -> c.lost).sum();
         int[] about = {m.clock, m.farms, m.plots.size(), m.cargos.size(), m.freeGangs(), m.freeTrucks(),
             m.turn(), crushed, lost, m.mean, 0};
         for (int i = 0; i < about.length; i++) {
-            Due.is(where + " about(" + i + ")", x.about(i), about[i]);
+            int what = i;
+            checks.add(new Check("about(" + what + ")", x -> x.about(what), about[what]));
         }
         for (int i = 0; i < m.farms; i++) {
-            Due.is(where + " paid(" + i + ")", x.paid(i), m.paid[i]);
-            Due.is(where + " order " + i, x.about(20 + i), i < m.order.size() ? m.order.get(i) : NONE);
+            int farm = i;
+            checks.add(new Check("paid(" + farm + ")", x -> x.paid(farm), m.paid[farm]));
+            int due = farm < m.order.size() ? m.order.get(farm) : NONE;
+            checks.add(new Check("about(20 + " + farm + ")", x -> x.about(20 + farm), due));
         }
-        for (int i = 0; i <= crushed; i++) {
-            Due.is(where + " bundle(" + i + ")", x.bundle(i), i < crushed ? m.bundles.get(i) : NONE);
+        for (int i = 0; i <= crushed; i += i < crushed - 1 ? Math.max(1, crushed / 60) : 1) {
+            int ton = i;
+            int due = ton < crushed ? m.bundles.get(ton) : NONE;
+            checks.add(new Check("bundle(" + ton + ")", x -> x.bundle(ton), due));
         }
-        comparePlots(where, x, m);
-        compareCargos(where, x, m);
     }
 
-    private static void comparePlots(String where, CaneRounds x, Model m) {
+    private static void checkPlots(List<Check> checks, Model m) {
         for (int i = 0; i < m.plots.size(); i++) {
-            Plot p = m.plots.get(i);
+            int plot = i;
+            Plot p = m.plots.get(plot);
             int[] due = {p.farm, p.tons, p.state, p.done, p.fireAt != NONE ? 1 : 0, p.gangs, p.load};
-            for (int what = 0; what < due.length; what++) {
-                Due.is(where + " fieldOf(" + i + ", " + what + ")", x.fieldOf(i, what), due[what]);
+            for (int j = 0; j < due.length; j++) {
+                int what = j;
+                checks.add(new Check("fieldOf(" + plot + ", " + what + ")", x -> x.fieldOf(plot, what), due[what]));
             }
-            Due.is(where + " sweet(" + i + ")", x.sweet(i, m.clock), p.sweet(m.clock));
+            int clock = m.clock;
+            checks.add(new Check("sweet(" + plot + ", " + clock + ")", x -> x.sweet(plot, clock), p.sweet(clock)));
         }
     }
 
-    private static void compareCargos(String where, CaneRounds x, Model m) {
+    private static void checkCargos(List<Check> checks, Model m) {
         for (int i = 0; i < m.cargos.size(); i++) {
-            Cargo c = m.cargos.get(i);
+            int cargo = i;
+            Cargo c = m.cargos.get(cargo);
             long[] due = {c.plot, c.cutAt, c.sweet, c.dies, c.atMill, c.crushed, c.lost,
                 c.overAt != NONE ? 1 : 0, c.pay};
-            for (int what = 0; what < due.length; what++) {
-                Due.is(where + " load(" + i + ", " + what + ")", x.load(i, what), due[what]);
+            for (int j = 0; j < due.length; j++) {
+                int what = j;
+                checks.add(new Check("load(" + cargo + ", " + what + ")", x -> x.load(cargo, what), due[what]));
             }
         }
     }

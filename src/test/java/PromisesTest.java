@@ -32,8 +32,8 @@ public final class PromisesTest {
         Due.finish();
     }
 
-    private static CaneRounds withFarms(int farms) {
-        CaneRounds x = new CaneRounds();
+    private static Mill withFarms(int farms) {
+        Mill x = new Mill();
         for (int i = 0; i < farms; i++) {
             Due.is("farm()", x.farm(), i);
         }
@@ -41,13 +41,13 @@ public final class PromisesTest {
     }
 
     /** A mill with one farm whose turn it is each time a field is cut. */
-    private static void cutInNewRound(CaneRounds x, int field, int gangs) {
+    private static void cutInNewRound(Mill x, int field, int gangs) {
         x.round(0);
         Due.is("cut(" + field + ", " + gangs + ")", x.cut(field, gangs), true);
     }
 
     private static void promise1New() {
-        CaneRounds x = new CaneRounds();
+        Mill x = new Mill();
         int[] due = {0, 0, 0, 0, 3, 3, NONE, 0, 0, NONE, 0};
         for (int what = 0; what < due.length; what++) {
             Due.is("new: about(" + what + ")", x.about(what), due[what]);
@@ -63,7 +63,7 @@ public final class PromisesTest {
     }
 
     private static void promise2Rules() {
-        CaneRounds x = withFarms(1);
+        Mill x = withFarms(1);
         int[] least = {1, 1, 1, 1};
         int[] most = {9, 20, 9, 100};
         for (int i = 0; i < 4; i++) {
@@ -93,7 +93,7 @@ public final class PromisesTest {
     }
 
     private static void promise3Farm() {
-        CaneRounds x = withFarms(10);
+        Mill x = withFarms(10);
         Due.is("11th farm", x.farm(), NONE);
         Due.is("farms", x.about(1), 10);
         Due.is("field of the last farm", x.field(9, 1, 0, 1, 0, 1), 0);
@@ -101,7 +101,7 @@ public final class PromisesTest {
     }
 
     private static void promise4Field() {
-        CaneRounds x = withFarms(2);
+        Mill x = withFarms(2);
         int[] plain = {1, 20, 10, 10, 100, 10};
         int[] least = {0, 1, 0, 1, 0, 1};
         int[] most = {1, 200, 60, 30, 4000, 100};
@@ -123,7 +123,7 @@ public final class PromisesTest {
     }
 
     private static void promise5Weather() {
-        CaneRounds x = withFarms(1);
+        Mill x = withFarms(1);
         Due.is("from below 0", x.weather(false, -1, 5), false);
         Due.is("empty", x.weather(false, 5, 5), false);
         Due.is("backwards", x.weather(true, 5, 4), false);
@@ -147,7 +147,7 @@ public final class PromisesTest {
     }
 
     private static void rainLetsTheMillCrush() {
-        CaneRounds x = withFarms(1);
+        Mill x = withFarms(1);
         x.field(0, 40, 0, 10, 0, 100);
         cutInNewRound(x, 0, 3);
         x.hours(3);
@@ -161,11 +161,11 @@ public final class PromisesTest {
     }
 
     private static void promise6Round() {
-        Due.is("round without farms", new CaneRounds().round(7), NONE);
+        Due.is("round without farms", new Mill().round(7), NONE);
         int[] seeds = {0, 1, -1, 12345, Integer.MIN_VALUE, Integer.MAX_VALUE};
         for (int farms = 1; farms <= 10; farms++) {
             for (int seed : seeds) {
-                CaneRounds x = withFarms(farms);
+                Mill x = withFarms(farms);
                 int[] order = lot(farms, seed);
                 Due.is("round(" + seed + ")", x.round(seed), order[0]);
                 for (int i = 0; i < farms; i++) {
@@ -174,7 +174,7 @@ public final class PromisesTest {
                 Due.is("behind the order", x.about(20 + farms), NONE);
             }
         }
-        CaneRounds x = withFarms(2);
+        Mill x = withFarms(2);
         x.round(5);
         x.farm();
         Due.is("a later farm is not in the order", x.about(22), NONE);
@@ -204,7 +204,7 @@ public final class PromisesTest {
     }
 
     private static void promise7Pass() {
-        CaneRounds x = withFarms(3);
+        Mill x = withFarms(3);
         Due.is("pass without a round", x.pass(), NONE);
         int[] order = lot(3, 99);
         x.round(99);
@@ -219,7 +219,7 @@ public final class PromisesTest {
     }
 
     private static void promise8Cut() {
-        CaneRounds x = withFarms(2);
+        Mill x = withFarms(2);
         int[] order = lot(2, 3);
         x.field(order[0], 20, 0, 10, 0, 1);
         x.field(order[1], 20, 0, 10, 0, 1);
@@ -251,7 +251,7 @@ public final class PromisesTest {
     }
 
     private static void promise8CutOfBurntFields() {
-        CaneRounds x = withFarms(2);
+        Mill x = withFarms(2);
         int[] order = lot(2, 3);
         x.field(order[1], 20, 0, 10, 0, 1);
         x.field(order[1], 20, 0, 10, 0, 1);
@@ -266,7 +266,7 @@ public final class PromisesTest {
         Due.is("turn goes on", x.about(6), order[1]);
         Due.is("its turn is still there", x.cut(1, 1), true);
         Due.is("turn", x.about(6), NONE);
-        CaneRounds y = withFarms(1);
+        Mill y = withFarms(1);
         y.field(0, 20, 0, 10, 0, 1);
         y.fire(0);
         Due.is("burnt, too many gangs", y.cut(0, 4), false);
@@ -274,7 +274,7 @@ public final class PromisesTest {
     }
 
     private static void promise9Fire() {
-        CaneRounds x = withFarms(1);
+        Mill x = withFarms(1);
         x.field(0, 10, 0, 10, 5, 1);
         x.field(0, 10, 0, 1, 5, 100);
         x.field(0, 10, 0, 10, 5, 1);
@@ -306,7 +306,7 @@ public final class PromisesTest {
     }
 
     private static void promise10Hours() {
-        CaneRounds x = new CaneRounds();
+        Mill x = new Mill();
         Due.is("hours(0)", x.hours(0), NONE);
         Due.is("hours(-1)", x.hours(-1), NONE);
         Due.is("hours(101)", x.hours(101), NONE);
@@ -325,7 +325,7 @@ public final class PromisesTest {
     }
 
     private static void promise10Trucks() {
-        CaneRounds x = withFarms(1);
+        Mill x = withFarms(1);
         x.rules(9, 20, 1, 100);
         x.field(0, 20, 60, 10, 0, 100);
         x.field(0, 20, 10, 10, 0, 100);
@@ -358,7 +358,7 @@ public final class PromisesTest {
     }
 
     private static void aLostLoadTakesNoTruck() {
-        CaneRounds x = withFarms(1);
+        Mill x = withFarms(1);
         x.rules(9, 20, 1, 100);
         for (int i = 0; i < 3; i++) {
             x.field(0, 20, 60, 10, 0, 100);
@@ -375,7 +375,7 @@ public final class PromisesTest {
     }
 
     private static void promise10MillCrushesFirstWhatDiesFirst() {
-        CaneRounds x = withFarms(1);
+        Mill x = withFarms(1);
         x.rules(9, 20, 9, 10);
         x.field(0, 20, 30, 10, 0, 100);
         x.field(0, 20, 30, 10, 0, 100);
@@ -404,7 +404,7 @@ public final class PromisesTest {
     }
 
     private static void partLost() {
-        CaneRounds x = withFarms(1);
+        Mill x = withFarms(1);
         x.rules(9, 20, 9, 3);
         x.field(0, 100, 0, 10, 0, 100);
         cutInNewRound(x, 0, 5);
@@ -419,7 +419,7 @@ public final class PromisesTest {
     }
 
     private static void promise11Feed() {
-        CaneRounds x = new CaneRounds();
+        Mill x = new Mill();
         for (int i = 1; i <= 5; i++) {
             Due.is("feed", x.feed(0x20202020, 0x20202020, 0x20202020, 0x20202020, 0x20202020), 20 * i);
         }
@@ -443,7 +443,7 @@ public final class PromisesTest {
     }
 
     private static void promise12End() {
-        CaneRounds x = new CaneRounds();
+        Mill x = new Mill();
         Due.is("end(1)", x.end(1), NONE);
         Due.is("end(0)", x.end(0), 0);
         x.feed(0x74747474, 0, 0, 0, 0);
@@ -458,7 +458,7 @@ public final class PromisesTest {
     }
 
     private static void promise13Text() {
-        CaneRounds x = new CaneRounds();
+        Mill x = new Mill();
         Due.is("text", Due.text(x, "s+h"), true);
         Due.is("the tape is empty", x.about(10), 0);
         Due.is("tells", x.tells(1, 20, 300, 4000, 50000), 50020);
@@ -478,7 +478,7 @@ public final class PromisesTest {
     }
 
     private static void faultOf(String text, int fault, int place) {
-        CaneRounds x = new CaneRounds();
+        Mill x = new Mill();
         Due.is("text " + text, Due.text(x, text), fault == 0);
         Due.is("fault of " + text, x.fault(0), fault);
         Due.is("place of " + text, x.fault(1), place);
@@ -542,7 +542,7 @@ public final class PromisesTest {
     }
 
     private static void tellsOf(String text, int due) {
-        CaneRounds x = new CaneRounds();
+        Mill x = new Mill();
         Due.is("text " + text, Due.text(x, text), true);
         Due.is("tells of " + text, x.tells(11, 7, 5, 3, 2), due);
     }
@@ -572,7 +572,7 @@ public final class PromisesTest {
         tellsOf("9999*9999*9999*(9999*9999*9999)", 1000000000);
         tellsOf("- 9999*9999*9999*(9999*9999*9999)", -1000000000);
         tellsOf("0012", 12);
-        CaneRounds x = new CaneRounds();
+        Mill x = new Mill();
         Due.text(x, "t+s+m+b+h");
         int[] v = {1000000, 1000000, 1000000, 1000000, 1000000};
         Due.is("most", x.tells(v[0], v[1], v[2], v[3], v[4]), 5000000);
@@ -589,7 +589,7 @@ public final class PromisesTest {
     }
 
     private static void promise16Sweet() {
-        CaneRounds x = withFarms(1);
+        Mill x = withFarms(1);
         x.field(0, 10, 0, 10, 100, 7);
         Due.is("ripe", x.sweet(0, 100), 10);
         Due.is("6 ahead", x.sweet(0, 94), 10);
@@ -613,14 +613,14 @@ public final class PromisesTest {
         Due.is("gone", x.sweet(0, 100), 8);
     }
 
-    private static void fieldIs(CaneRounds x, int field, int... due) {
+    private static void fieldIs(Mill x, int field, int... due) {
         for (int what = 0; what < due.length; what++) {
             Due.is("fieldOf(" + field + ", " + what + ")", x.fieldOf(field, what), due[what]);
         }
     }
 
     private static void promise17FieldOf() {
-        CaneRounds x = withFarms(2);
+        Mill x = withFarms(2);
         x.field(1, 25, 0, 10, 0, 100);
         x.field(0, 3, 0, 10, 0, 100);
         fieldIs(x, 0, 1, 25, 0, 0, 0, 0, NONE);
@@ -641,14 +641,14 @@ public final class PromisesTest {
         fieldIs(x, 1, 0, 3, 3, 0, 1, 0, NONE);
     }
 
-    private static void loadIs(CaneRounds x, int load, int... due) {
+    private static void loadIs(Mill x, int load, int... due) {
         for (int what = 0; what < due.length; what++) {
             Due.is("load(" + load + ", " + what + ")", x.load(load, what), due[what]);
         }
     }
 
     private static void promise18Load() {
-        CaneRounds x = withFarms(1);
+        Mill x = withFarms(1);
         x.field(0, 30, 20, 10, 4, 1);
         x.field(0, 30, 20, 12, 0, 1);
         cutInNewRound(x, 0, 2);
@@ -674,7 +674,7 @@ public final class PromisesTest {
     }
 
     private static void promise19Bundle() {
-        CaneRounds x = withFarms(1);
+        Mill x = withFarms(1);
         x.rules(9, 20, 9, 7);
         x.field(0, 20, 0, 10, 0, 100);
         x.field(0, 20, 10, 10, 0, 100);
@@ -702,13 +702,13 @@ public final class PromisesTest {
         Due.is("bundle(40)", x.bundle(40), NONE);
     }
 
-    private static void bestIs(CaneRounds x, int set, int g, int worth, int part) {
+    private static void bestIs(Mill x, int set, int g, int worth, int part) {
         Due.is("best(" + set + ", " + g + ")", x.best(set, g), worth);
         Due.is("bestSet(" + set + ", " + g + ")", x.bestSet(set, g), part);
     }
 
     private static void promise20And21Best() {
-        CaneRounds x = withFarms(1);
+        Mill x = withFarms(1);
         x.rules(9, 10, 3, 100);
         for (int i = 0; i < 4; i++) {
             x.field(0, 10, 0, 10, 0, 100);
@@ -745,7 +745,7 @@ public final class PromisesTest {
     }
 
     private static void bestOfBurntFieldsThatDieSooner() {
-        CaneRounds x = withFarms(1);
+        Mill x = withFarms(1);
         x.rules(9, 20, 9, 5);
         x.field(0, 100, 0, 10, 0, 100);
         x.field(0, 55, 0, 10, 0, 100);
@@ -760,7 +760,7 @@ public final class PromisesTest {
     }
 
     private static void bestKeepsTheWayToTheMill() {
-        CaneRounds x = withFarms(1);
+        Mill x = withFarms(1);
         x.rules(9, 20, 9, 5);
         x.field(0, 90, 60, 10, 0, 100);
         x.field(0, 91, 60, 10, 0, 100);
@@ -771,7 +771,7 @@ public final class PromisesTest {
     }
 
     private static void bestHeedsNeitherWeatherNorLoads() {
-        CaneRounds x = withFarms(1);
+        Mill x = withFarms(1);
         x.rules(9, 20, 1, 5);
         x.field(0, 100, 0, 10, 0, 100);
         x.field(0, 100, 0, 10, 0, 100);
@@ -783,7 +783,7 @@ public final class PromisesTest {
     }
 
     private static void promise22Paid() {
-        CaneRounds x = withFarms(2);
+        Mill x = withFarms(2);
         x.rules(9, 20, 9, 10);
         Due.is("text", Due.text(x, "t*100+s*9999-m*1000+b*1000-1-h"), true);
         x.field(0, 20, 0, 10, 0, 100);
@@ -815,7 +815,7 @@ public final class PromisesTest {
     }
 
     private static void paidInTheDayInWhichItIsOver() {
-        CaneRounds x = withFarms(1);
+        Mill x = withFarms(1);
         x.rules(9, 20, 9, 10);
         x.field(0, 20, 0, 10, 0, 100);
         x.field(0, 20, 0, 20, 0, 100);
@@ -834,7 +834,7 @@ public final class PromisesTest {
     }
 
     private static void paidBeyondAnInt() {
-        CaneRounds x = withFarms(1);
+        Mill x = withFarms(1);
         x.rules(9, 20, 9, 100);
         Due.text(x, "9999*9999*9999");
         for (int i = 0; i < 5; i++) {
@@ -852,7 +852,7 @@ public final class PromisesTest {
     }
 
     private static void promise23About() {
-        CaneRounds x = withFarms(2);
+        Mill x = withFarms(2);
         x.rules(4, 5, 2, 20);
         x.field(0, 20, 20, 10, 0, 100);
         x.field(1, 20, 0, 10, 0, 100);
@@ -876,7 +876,7 @@ public final class PromisesTest {
         Due.is("crushed", x.about(7), 20);
     }
 
-    private static void aboutIs(CaneRounds x, int[] due) {
+    private static void aboutIs(Mill x, int[] due) {
         for (int what = 0; what < due.length; what++) {
             Due.is("about(" + what + ")", x.about(what), due[what]);
         }

@@ -40,7 +40,7 @@ public final class TextTest {
         if (p.text().length() > 100 || p.depth() > 8) {
             return;
         }
-        CaneRounds x = new CaneRounds();
+        Mill x = new Mill();
         Due.is("text " + p.text(), Due.text(x, p.text()), true);
         Due.is("tells of " + p.text(), x.tells(VALUES[0], VALUES[1], VALUES[2], VALUES[3], VALUES[4]),
                 p.value().longValue());
@@ -114,7 +114,7 @@ public final class TextTest {
             text = text.substring(0, 100);
         }
         int[] due = fault(text);
-        CaneRounds x = new CaneRounds();
+        Mill x = new Mill();
         Due.is("text " + text, Due.text(x, text), due[0] == 0);
         Due.is("fault of " + text, x.fault(0), due[0]);
         Due.is("place of " + text, x.fault(1), due[1]);
