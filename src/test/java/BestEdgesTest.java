@@ -166,9 +166,12 @@ public final class BestEdgesTest {
         x.field(0, 20, 0, 2, 0, 100);
         x.field(0, 20, 0, 10, 0, 100);
         x.fire(1);
+        x.field(0, 1, 0, 1, 0, 100);
         bestIs(x, 1, 1, 0, 0);
         bestIs(x, 2, 1, 0, 0);
         bestIs(x, 7, 3, 200, 4);
+        bestIs(x, 8, 1, 1, 8);
+        bestIs(x, 15, 4, 201, 12);
     }
 
     /** Of a field with so many tons alone: whether it is crushed in time. */

@@ -25,6 +25,7 @@ public final class FarmsEdgesTest {
         stopsAreInTheirHoursAlone();
         weatherAtTheLastHour();
         lotIsOf32Bits();
+        lotIsOfTheRowOfNumbers();
         lotIsOfAllFarms();
         roundWithoutFarms();
         roundBeginsAnew();
@@ -448,8 +449,21 @@ public final class FarmsEdgesTest {
         orderIs(MOST, 2, 0, 1);
     }
 
+    private static void lotIsOfTheRowOfNumbers() {
+        Due.by("LOT: of the row of their numbers");
+        Mill x = withFarms(10);
+        roundOrders(x, 1, 8, 7, 3, 5, 1, 2, 0, 9, 6, 4);
+        roundOrders(x, 0, 0, 3, 6, 8, 4, 5, 7, 2, 1, 9);
+        roundOrders(x, LEAST, 8, 4, 6, 7, 2, 3, 5, 0, 1, 9);
+        roundOrders(x, -1, 7, 9, 8, 3, 5, 1, 6, 2, 0, 4);
+        roundOrders(x, -1, 7, 9, 8, 3, 5, 1, 6, 2, 0, 4);
+    }
+
     private static void orderIs(int seed, int... order) {
-        Mill x = withFarms(order.length);
+        roundOrders(withFarms(order.length), seed, order);
+    }
+
+    private static void roundOrders(Mill x, int seed, int... order) {
         Due.is("round(" + seed + ")", x.round(seed), order[0]);
         for (int i = 0; i < order.length; i++) {
             Due.is("place " + i + " by " + seed, x.about(20 + i), order[i]);

@@ -11,6 +11,7 @@ public final class HoursEdgesTest {
     public static void main(String[] args) {
         hoursAreOneToAHundred();
         hoursEndAt4000();
+        aLoadOfTheLastHour();
         cutsGoOnByRateForEachGang();
         loadsHaveTheSweetOfTheHourBehind();
         loadsDieAfter24Or12();
@@ -22,6 +23,8 @@ public final class HoursEdgesTest {
         trucksGoInRainAndAtStops();
         theMillCrushesFromTheHourOfComing();
         theMillCrushesAsFarAsTheyGo();
+        theMillCrushesSixteenLoadsInAnHour();
+        allTonsOfAllFields();
         theMillTakesWhatDiesFirst();
         ofLikeOnesTheLowest();
         lostAtTheHourBehind();
@@ -36,6 +39,7 @@ public final class HoursEdgesTest {
         paidByTheLoadsOwnNumbers();
         paidOfOthers();
         aboutOthers();
+        theLastOf512Calls();
         Due.finish();
     }
 
@@ -110,6 +114,19 @@ public final class HoursEdgesTest {
             later(z, 3930);
             working(z);
         }, z -> z.hours(67));
+    }
+
+    private static void aLoadOfTheLastHour() {
+        Due.by("HOURS 0 .. 4000: what an HOUR at the end leads to");
+        Mill x = mill(9, 20, 9, 100);
+        x.field(0, 20, 60, 30, 4000, 1);
+        later(x, 3999);
+        cut(x, 0, 1);
+        Due.is("hour 4000", x.hours(1), 4000);
+        int[] due = {0, 4000, 30, 4024, 4006, 0, 0, 0, NOTHING};
+        for (int what = 0; what < due.length; what++) {
+            Due.is("load(0, " + what + ")", x.load(0, what), due[what]);
+        }
     }
 
     private static void cutsGoOnByRateForEachGang() {
@@ -317,6 +334,50 @@ public final class HoursEdgesTest {
         x.hours(1);
         Due.is("no more than there is", x.about(7), 30);
         Due.is("the third", x.load(2, 5), 10);
+    }
+
+    private static void theMillCrushesSixteenLoadsInAnHour() {
+        Due.by("it crushes CRUSH tons .. as far as they go: of all 16 LOADS");
+        for (int tons = 6; tons <= 7; tons++) {
+            Mill x = mill(9, 20, 9, 100);
+            x.weather(true, 0, 10);
+            for (int i = 0; i < 16; i++) {
+                if (i == 8) {
+                    x.hours(3);
+                }
+                x.field(0, tons, 0, 9, 0, 9);
+                cut(x, i, 1);
+            }
+            x.hours(7);
+            Due.is("loads", x.about(3), 16);
+            Due.is("crushed", x.about(7), 0);
+            x.hours(1);
+            Due.is("crushed", x.about(7), Math.min(100, 16 * tons));
+            for (int i = 0; i < 16; i++) {
+                Due.is("load " + i, x.load(i, 5), Math.max(0, Math.min(tons, 100 - i * tons)));
+            }
+            Due.is("no 17th", x.load(16, 5), NONE);
+        }
+    }
+
+    private static void allTonsOfAllFields() {
+        Due.by("FIELDS 0 .. 15, TONS (1 .. 200): all of them are crushed and PAID");
+        for (int sign = -1; sign <= 1; sign += 2) {
+            Mill x = mill(9, 20, 9, 100);
+            Due.is("text", Due.text(x, (sign < 0 ? "-" : "") + "9999*9999*9999"), true);
+            for (int i = 0; i < 16; i++) {
+                Due.is("field", x.field(0, 200, 0, 9, 0, 9), i);
+                cut(x, i, 9);
+                x.hours(6);
+            }
+            Due.is("crushed", x.about(7), 3200);
+            for (int i = 0; i < 16; i++) {
+                Due.is("its first ton", x.bundle(200 * i), i);
+                Due.is("its last ton", x.bundle(200 * i + 199), i);
+            }
+            Due.is("behind the last", x.bundle(3200), NONE);
+            Due.is("paid", x.paid(0), sign * 16000000000L);
+        }
     }
 
     private static void theMillTakesWhatDiesFirst() {
@@ -687,9 +748,22 @@ public final class HoursEdgesTest {
         x.hours(24);
         Due.is("beyond what an int holds", x.paid(0), 3000000000L);
         Due.is("who had no load", x.paid(1), 0);
-        for (int wrong : new int[] {-1, 2, 9, 10, LEAST, MOST}) {
-            Due.is("paid(" + wrong + ")", x.paid(wrong), 0);
+        for (int farms = 2; farms <= 10; farms++) {
+            for (int wrong : new int[] {-1, farms, farms + 1, 10, 11, LEAST, MOST}) {
+                Due.is("paid(" + wrong + ") of " + farms, x.paid(wrong), 0);
+            }
+            x.farm();
         }
+        Due.is("the first one's still", x.paid(0), 3000000000L);
+    }
+
+    private static void theLastOf512Calls() {
+        Due.by("An object is used for at most 512 calls after it has been made");
+        Mill x = new Mill();
+        while (x.callsLeft() > 1) {
+            Due.is("clock", x.about(0), 0);
+        }
+        Due.is("the 512th", x.hours(100), 100);
     }
 
     private static void aboutOthers() {
