@@ -23,6 +23,9 @@ public final class LanguageTest {
         face();
         insides();
         words();
+        library();
+        divisors();
+        shortMethods();
         Due.is("NONE", CaneRounds.NONE, -1);
         Due.finish();
     }
@@ -80,14 +83,71 @@ public final class LanguageTest {
         }
     }
 
-    private static void words() throws Exception {
+    private static String code() throws Exception {
         String source = Files.readString(Path.of("src/main/java/CaneRounds.java"));
-        String code = source.replaceAll("(?s)/\\*.*?\\*/", "").replaceAll("//[^\n]*", "");
+        return source.replaceAll("(?s)/\\*.*?\\*/", "").replaceAll("//[^\n]*", "");
+    }
+
+    private static void words() throws Exception {
+        String code = code();
         String ruledOut = "\\b(throw|throws|try|catch|synchronized|assert|import|package|native|volatile|protected|"
                 + "Exact|random|Object|Thread|System|double|float|hashCode|toString|equals)\\b|->|::|\\w+Exact\\b";
         Matcher found = Pattern.compile(ruledOut).matcher(code);
         while (found.find()) {
             Due.is("the class has no " + found.group(), true, false);
         }
+    }
+
+    /** Every call of a class's function, and every object made, is the library's part that is left or one's own. */
+    private static void library() throws Exception {
+        String code = code();
+        Set<String> own = new TreeSet<>();
+        for (Class<?> c : CaneRounds.class.getDeclaredClasses()) {
+            own.add(c.getSimpleName());
+        }
+        Matcher called = Pattern.compile("\\b([A-Z]\\w*)\\.([a-z]\\w*)\\(").matcher(code);
+        while (called.find()) {
+            boolean left = called.group(1).equals("Math") && Set.of("max", "min", "abs").contains(called.group(2));
+            Due.is(called.group() + " is left by rule 4", left || own.contains(called.group(1)), true);
+        }
+        Matcher made = Pattern.compile("\\bnew (\\w+)").matcher(code);
+        while (made.find()) {
+            boolean numbers = Set.of("int", "long", "byte").contains(made.group(1));
+            Due.is(made.group() + " is left by rule 3", numbers || own.contains(made.group(1)), true);
+        }
+        Due.is("no texts, so none is joined by +", code.contains("\""), false);
+    }
+
+    /** What is divided by is a constant, or was looked at on the same line or in the loop around it. */
+    private static void divisors() throws Exception {
+        Set<String> safe = Set.of("divisor == 0 ? 0 : value / divisor", "(km + 9) / 10", "(clock + 1) % DAY == 0",
+                "(s >>> 16) % (ordered - i)");
+        String code = code();
+        for (String known : safe) {
+            code = code.replace(known, "");
+        }
+        code = code.replace("'/'", "");
+        Due.is("no other / in the class", code.contains("/"), false);
+        Due.is("no other % in the class", code.contains("%"), false);
+    }
+
+    private static void shortMethods() throws Exception {
+        int begun = 0;
+        int number = 0;
+        int methods = 0;
+        String end = null;
+        for (String line : Files.readAllLines(Path.of("src/main/java/CaneRounds.java"))) {
+            number++;
+            if (line.matches(" {4,8}(public|private)\\b.*\\{") && !line.contains(" class ")) {
+                begun = number;
+                end = " ".repeat(line.length() - line.stripLeading().length()) + "}";
+            }
+            if (line.equals(end)) {
+                Due.is("the method at line " + begun + " is short", number - begun < 60, true);
+                methods++;
+                end = null;
+            }
+        }
+        Due.is("methods were found", methods > FACE.size(), true);
     }
 }
